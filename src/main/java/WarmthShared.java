@@ -854,7 +854,8 @@ public final class WarmthShared {
             }
         }
 
-        private void restart() {
+        /** Back to the beginning, with FLOW by the WEIGHTS as they are told now. */
+        void restart() {
             int all = 0;
             for (int i = 0; i < size; i++) {
                 all += weight[i];
@@ -970,7 +971,10 @@ public final class WarmthShared {
         }
 
         private boolean isGood() {
-            course.go(hours);
+            course.restart();
+            for (int i = 0; i < hours; i++) {
+                course.goHour();
+            }
             return course.isAllEven(bounds);
         }
 
@@ -1037,10 +1041,16 @@ public final class WarmthShared {
 
         /** The FAULT of the text, -1 without one. */
         int check() {
-            readAll();
+            at = 0;
+            fault = -1;
+            readSum(0);
+            if (at < text.size) {
+                fail();
+            }
             return fault;
         }
 
+        /** What a text without a fault says of a FLAT. */
         int value(Block block, int flat) {
             Flat f = block.flats[flat];
             values[0] = f.used;
@@ -1051,17 +1061,9 @@ public final class WarmthShared {
             values[5] = flat;
             values[6] = f.riser;
             values[7] = f.place;
-            return readAll();
-        }
-
-        private int readAll() {
             at = 0;
             fault = -1;
-            int value = readSum(0);
-            if (at < text.size) {
-                fail();
-            }
-            return value;
+            return readSum(0);
         }
 
         /** The byte that comes next; -1 at the end, and behind a fault, so that all reading stops. */
@@ -1145,7 +1147,7 @@ public final class WarmthShared {
         }
 
         private static boolean isDigit(int sign) {
-            return within(sign, '0', '9');
+            return sign >= '0' && sign <= '9';
         }
 
         private int readBracket(int depth) {

@@ -197,6 +197,8 @@ public final class BillsTest {
         dueBills(x, 100, 67, 33, 0);
         Check.rule(x, "[f-1?9999*11:1]");
         dueBills(x, 9999, 5000, 0, 4999);
+        Check.rule(x, "[f-1?0:1]");
+        dueBills(x, 9, 0, 9, 0);
         Check.rule(x, "0-1");
         Check.due("17: no SHARE above 0", x.bill(10, 0), Check.NONE);
         Check.due("17: BEYOND is asked ahead of NONE", x.bill(10000, 0), Check.BEYOND);
@@ -221,6 +223,8 @@ public final class BillsTest {
         Check.due("18: nobody pays with it", x.other(10, 0), Check.NONE);
         x.plain();
         Check.due("18: without any RULE", x.other(10, 0), 0);
+        Check.due("18: price 0", x.other(0, 0), 0);
+        Check.due("18: price 9999", x.other(9999, 0), 0);
         Check.due("18: price 10000", x.other(10000, 0), Check.BEYOND);
         Check.due("18: price -1", x.other(-1, 0), Check.BEYOND);
         Check.due("18: flat 3", x.other(1, 3), Check.BEYOND);

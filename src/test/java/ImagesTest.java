@@ -5,6 +5,8 @@ public final class ImagesTest {
         undoStays();
         undoLeaves();
         undoOfFlats();
+        undoOfHeldAndOpen();
+        undoOfGroups();
         tear();
         count();
         status();
@@ -132,6 +134,35 @@ public final class ImagesTest {
         for (int what = 0; what < due.length; what++) {
             Check.due("2: as at first, of(0, " + what + ")", x.of(0, what), due[what]);
         }
+    }
+
+    private static void undoOfHeldAndOpen() {
+        WarmthShared x = house();
+        x.hold(0, true);
+        x.window(0, true);
+        String due = all(x);
+        x.image();
+        x.hold(0, false);
+        x.window(0, false);
+        x.hold(1, true);
+        x.window(1, true);
+        x.undo();
+        dueAll("36: HELD and windows", x, due);
+    }
+
+    private static void undoOfGroups() {
+        WarmthShared x = new WarmthShared();
+        for (int i = 0; i < 3; i++) {
+            x.flat(0, 0, 50);
+            x.complain(i, 1 + i % 2);
+        }
+        x.image();
+        x.complain(1, 1);
+        Check.due("28: joined by a later one", x.joined(0, 2), 1);
+        x.undo();
+        Check.due("36: COMPLAINTS", x.count(3), 3);
+        Check.due("36: apart again", x.joined(0, 2), 0);
+        Check.due("36: two of them COLD", x.groups(1), 2);
     }
 
     private static void tear() {

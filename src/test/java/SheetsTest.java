@@ -26,8 +26,10 @@ public final class SheetsTest {
         Check.due("30: n 40", x.sheet(0, 64, 40), 40);
         Check.due("30: n 0", x.sheet(3, 16, 0), 0);
         Check.due("30: it is there", x.read(3), 0);
+        x.write(0, 0, 4);
         x.write(0, 39, 5);
         Check.due("30: anew", x.sheet(0, 8, 40), 40);
+        Check.due("30: all 0", x.write(0, 0, 6), 0);
         Check.due("30: all 0", x.write(0, 39, 6), 0);
         Check.due("30: a finding changes nothing", x.sheet(0, 8, 41), Check.BEYOND);
         Check.due("30: it is as it was", x.write(0, 39, 7), 6);
