@@ -25,7 +25,7 @@ public final class ModelTest {
         this.random = new Random(run);
     }
 
-    public static void main(String[] args) throws ReflectiveOperationException {
+    public static void main(String[] args) {
         for (int run = 0; run < RUNS && !isWrong; run++) {
             new ModelTest(run).go();
         }
@@ -42,7 +42,7 @@ public final class ModelTest {
         Check.end();
     }
 
-    private void go() throws ReflectiveOperationException {
+    private void go() {
         int flats = random.nextInt(13);
         for (int i = 0; i < flats; i++) {
             call("flat", random.nextInt(6), random.nextInt(random.nextInt(4) + 1), 1 + random.nextInt(99));
@@ -72,7 +72,7 @@ public final class ModelTest {
         }
     }
 
-    private void callByChance() throws ReflectiveOperationException {
+    private void callByChance() {
         Method[] all = Model.class.getDeclaredMethods();
         List<Method> face = new ArrayList<>();
         for (Method m : all) {
@@ -153,7 +153,7 @@ public final class ModelTest {
     }
 
     /** Bounds about what is foretold, so that no turn, one, or two may help. */
-    private void askFew() throws ReflectiveOperationException {
+    private void askFew() {
         int n = 1 + (int) upTo(7);
         int least = 999;
         int most = 0;
@@ -171,7 +171,7 @@ public final class ModelTest {
         }
     }
 
-    private void tellRule() throws ReflectiveOperationException {
+    private void tellRule() {
         StringBuilder text = new StringBuilder(sum(0));
         for (int spoilt = random.nextInt(4); spoilt > 2; spoilt--) {
             String signs = "utgwkfrp0123456789+-*/()[]?: x";
@@ -218,7 +218,7 @@ public final class ModelTest {
         return "" + random.nextInt(random.nextInt(10) == 0 ? 12000 : 300);
     }
 
-    private void writeWarm() throws ReflectiveOperationException {
+    private void writeWarm() {
         long s = upTo(3);
         call("sheet", s, 16, upTo(model.count(1) + 1));
         for (int i = 0; i < model.count(1); i++) {
@@ -227,9 +227,9 @@ public final class ModelTest {
         call("read", s);
     }
 
-    private long call(String name, long... args) throws ReflectiveOperationException {
-        long got = ask(shared, name, args);
-        long want = ask(model, name, args);
+    private long call(String name, long... args) {
+        long got = Calls.ask(shared, name, args);
+        long want = Calls.ask(model, name, args);
         if (got != want) {
             Check.fail("run " + run + ": " + name + Arrays.toString(args) + " answered " + got + ", the model " + want);
             isWrong = true;
@@ -238,20 +238,5 @@ public final class ModelTest {
             SEEN.merge(name, 1, Integer::sum);
         }
         return want;
-    }
-
-    private static long ask(Object on, String name, long[] args) throws ReflectiveOperationException {
-        for (Method m : on.getClass().getDeclaredMethods()) {
-            if (m.getName().equals(name) && java.lang.reflect.Modifier.isPublic(m.getModifiers())) {
-                Object[] given = new Object[args.length];
-                for (int i = 0; i < args.length; i++) {
-                    Class<?> type = m.getParameterTypes()[i];
-                    given[i] = type == int.class ? (Object) (int) args[i]
-                        : type == boolean.class ? (Object) (args[i] != 0) : (Object) args[i];
-                }
-                return ((Number) m.invoke(on, given)).longValue();
-            }
-        }
-        throw new NoSuchMethodException(name);
     }
 }
