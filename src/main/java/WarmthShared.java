@@ -933,7 +933,7 @@ public final class WarmthShared {
 
         private boolean seekOne() {
             for (int i = 0; i < block.size; i++) {
-                if (!block.flats[i].isHeld && helps(i, -1)) {
+                if (!block.flats[i].isHeld && isOneEnough(i)) {
                     return true;
                 }
             }
@@ -945,7 +945,7 @@ public final class WarmthShared {
             for (int greater = 1; greater < block.size; greater++) {
                 for (int lesser = 0; lesser < greater; lesser++) {
                     boolean isHeld = block.flats[lesser].isHeld || block.flats[greater].isHeld;
-                    if (!isHeld && helps(lesser, greater)) {
+                    if (!isHeld && areTwoEnough(lesser, greater)) {
                         return true;
                     }
                 }
@@ -953,20 +953,37 @@ public final class WarmthShared {
             return false;
         }
 
-        /** Whether a turn of a FLAT's valve helps, together with one of another (-1: of no other). */
-        private boolean helps(int flat, int another) {
+        /** Whether a turn of one FLAT's valve is enough, the others as they are told now. */
+        private boolean isOneEnough(int flat) {
             int was = block.flats[flat].open;
             for (int open = 0; open <= MOST_OPEN; open++) {
                 if (open != was) {
                     newOpen[flat] = open;
                     course.weight[flat] = block.weight(flat, open);
-                    if (another < 0 ? isGood() : helps(another, -1)) {
+                    if (isGood()) {
                         return true;
                     }
                 }
             }
             newOpen[flat] = -1;
             course.weight[flat] = block.weight(flat, was);
+            return false;
+        }
+
+        /** Whether turns of two FLATS' valves are enough: with each of the lesser one's all of the greater one's. */
+        private boolean areTwoEnough(int lesser, int greater) {
+            int was = block.flats[lesser].open;
+            for (int open = 0; open <= MOST_OPEN; open++) {
+                if (open != was) {
+                    newOpen[lesser] = open;
+                    course.weight[lesser] = block.weight(lesser, open);
+                    if (isOneEnough(greater)) {
+                        return true;
+                    }
+                }
+            }
+            newOpen[lesser] = -1;
+            course.weight[lesser] = block.weight(lesser, was);
             return false;
         }
 

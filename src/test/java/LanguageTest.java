@@ -115,11 +115,11 @@ public final class LanguageTest {
         if (!library.isEmpty()) {
             Check.fail("rule 4: look whether the list has " + library);
         }
-        lengths(source.split("\n"));
+        methods(source.split("\n"));
     }
 
     /** A method begins with a line that ends in ") {" and isn't deeper than eight blanks; it ends at the like depth. */
-    private static void lengths(String[] lines) {
+    private static void methods(String[] lines) {
         for (int i = 0; i < lines.length; i++) {
             Matcher head = Pattern.compile("^( {4}| {8})(?!if|for|while|switch)\\S.*\\) \\{$").matcher(lines[i]);
             if (head.find()) {
@@ -130,6 +130,18 @@ public final class LanguageTest {
                 if (end - i > 60) {
                     Check.fail("rule 11: more than sixty lines: " + lines[i].trim());
                 }
+                callsItself(lines, i, end);
+            }
+        }
+    }
+
+    /** Rule 8 lets a method call itself if it is private static (or an interface's, and there is none). */
+    private static void callsItself(String[] lines, int head, int end) {
+        String name = lines[head].replaceFirst("\\(.*", "").replaceFirst(".*\\W", "");
+        Pattern itself = Pattern.compile("(?<![.\\w])" + name + "\\(");
+        for (int i = head + 1; i < end; i++) {
+            if (itself.matcher(lines[i]).find() && !lines[head].contains("private static ")) {
+                Check.fail("rule 8: " + name + " calls itself and is not private static");
             }
         }
     }

@@ -26,7 +26,7 @@ public final class RefusedTest {
     private static final String TORN = "flat 0 0 50; image; tear";
 
     /** The findings that the document names, call by call. */
-    private static final String[] NAMED = {"flat BEYOND FULL", "of BEYOND", "as BEYOND KIND", "set BEYOND",
+    static final String[] NAMED = {"flat BEYOND FULL", "of BEYOND", "as BEYOND KIND", "set BEYOND",
         "turn BEYOND STATE", "hold BEYOND", "window BEYOND", "drift BEYOND", "hours BEYOND STATE", "riser BEYOND",
         "feed BEYOND FULL", "share BEYOND", "bill BEYOND NONE", "other BEYOND NONE", "meters BEYOND NONE",
         "felt BEYOND", "even BEYOND", "foretold BEYOND", "few BEYOND NONE", "setback BEYOND", "works BEYOND",
